@@ -17,6 +17,9 @@ final class Model {
     List<Integer> file = new ArrayList<>();
     int[] told = null;
 
+    /** Writes rows pixel by pixel, also plain ones: no file that is written is so, but it can be read. */
+    boolean neverPlain = false;
+
     static int pixel(int[][] p, int x, int y) {
         return y >= 0 && y < p.length && x >= 0 && x < p[0].length ? p[y][x] : 0;
     }
@@ -132,7 +135,7 @@ final class Model {
         int decisions = 0;
         int plainRows = 0;
         for (int y = 0; y < layer.length; y++) {
-            boolean plain = true;
+            boolean plain = !neverPlain;
             for (int x = 0; x < layer[0].length; x++) {
                 plain &= layer[y][x] == plain(k, layer, below, x, y);
             }

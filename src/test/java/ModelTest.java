@@ -47,7 +47,7 @@ public final class ModelTest {
     }
 
     private void call() {
-        switch (below(16)) {
+        switch (below(17)) {
             case 0 -> clear(below(19) - 1, below(19) - 1);
             case 1, 2 -> set(below(20) - 2, below(20) - 2, below(9) == 0 ? below(9) - 3 : below(2));
             case 3 -> row(below(19) - 1, below(65536) * (below(5) == 0 ? -77777 : 1));
@@ -59,6 +59,7 @@ public final class ModelTest {
             case 12 -> type(((long) below(1 << 30) << 34) ^ below(1 << 30), below(20) == 0 ? below(11) - 1 : 1 + below(2));
             case 13 -> cut(below(model.file.size() + 3) - 1);
             case 14 -> typeFile();
+            case 15 -> typeFileWithoutPlainRows();
             default -> told(below(5) - 1);
         }
     }
@@ -70,10 +71,11 @@ public final class ModelTest {
 
     private void fillPicture() {
         clear(1 + below(16), 1 + below(16));
-        int kind = below(4);
+        int kind = below(5);
         int mask = below(65536);
         for (int y = 0; y < model.picture.length; y++) {
             int line = kind == 0 ? below(65536) : kind == 1 ? below(65536) | below(65536) : mask;
+            line = kind == 4 ? 1 << below(40) : line;
             if (kind == 3 && below(4) == 0) {
                 mask = below(65536) & below(65536) | mask;
             }
@@ -100,6 +102,25 @@ public final class ModelTest {
                 type(b == 255 ? 0xFF00 : b, b == 255 ? 2 : 1);
             }
             type(0xFF02, below(30) == 0 ? 1 : 2);
+        }
+        read(below(layers));
+        sameState();
+    }
+
+    /** Rows that are the same as those above or below, but were not said to be plain. */
+    private void typeFileWithoutPlainRows() {
+        Model other = new Model();
+        other.neverPlain = true;
+        other.clear(1 + below(16), 1 + below(16));
+        int line = below(3) == 0 ? below(65536) : 0;
+        for (int y = 0; y < other.picture.length; y++) {
+            other.row(y, below(9) == 0 ? below(65536) : line);
+        }
+        int layers = 1 + below(3);
+        other.write(layers);
+        cut(0);
+        for (int b : other.file) {
+            type(b, 1);
         }
         read(below(layers));
         sameState();

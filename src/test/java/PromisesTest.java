@@ -166,7 +166,7 @@ public final class PromisesTest {
         Check.due("half of one pixel", halved("1"), "0");
         Check.due("half of 3 by 1", halved("111"), "00");
         Check.due("half of 5 by 3", halved("11111", "11111", "11111"), "110/000");
-        Check.due("three ones and three around", halved("111", "111", "011"), "10/00");
+        Check.due("three ones and three around", halved("111", "101", "001"), "10/00");
         LayeredBits bits = drawn("1111111111111111");
         int size = bits.write(1);
         bits.halve();
