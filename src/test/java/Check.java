@@ -1,6 +1,7 @@
 /** Counts and prints what is not as due. */
 final class Check {
     private static int wrong = 0;
+    private static String sentence = "";
 
     private Check() {
     }
@@ -13,17 +14,31 @@ final class Check {
         void run();
     }
 
+    /** A test of words of the document; they are told with each answer that is not as due. */
+    static void sentence(String words, Action test) {
+        sentence = "'" + words + "': ";
+        try {
+            test.run();
+        } catch (RuntimeException e) {
+            tell("a call that is no refusal threw " + e);
+        }
+        sentence = "";
+    }
+
+    private static void tell(String what) {
+        wrong++;
+        System.out.println(sentence + what);
+    }
+
     static void due(String what, long got, long want) {
         if (got != want) {
-            wrong++;
-            System.out.println(what + " answered " + got + ", due is " + want);
+            tell(what + " answered " + got + ", due is " + want);
         }
     }
 
     static void due(String what, String got, String want) {
         if (!got.equals(want)) {
-            wrong++;
-            System.out.println(what + " answered " + got + ", due is " + want);
+            tell(what + " answered " + got + ", due is " + want);
         }
     }
 

@@ -1,7 +1,9 @@
 import java.math.BigInteger;
 import java.util.ArrayList;
 import java.util.Arrays;
+import java.util.EnumSet;
 import java.util.List;
+import java.util.Set;
 
 /**
  * The document's words once more, in another way than the program: the code is one BigInteger, and
@@ -12,6 +14,18 @@ final class Model {
         23068, 19000, 15000, 12000, 9600, 7600, 6000, 4800, 3800, 3000, 2400, 1900,
         1500, 1200, 950, 750, 600, 480, 380, 300, 240, 190, 150, 120
     };
+
+    /** What the document's sentences on decisions and bytes tell apart; each may happen or not in a layer. */
+    enum Edge {
+        HALF_IS_ALL, NEARLY_HALF_IS_NOT_ALL, DOUBLED_TO_HALF,
+        FAVOURITE_ABOVE, FAVOURITE_AT_Q, OTHER_BELOW, OTHER_AT_Q,
+        STATE_STAYS_23, STATE_23_FALLS, STATE_2_FALLS, STATE_1_FALLS, FAVOURITE_CHANGES, FAVOURITE_COMES_BACK,
+        LONG_CARRY, NO_BYTES, WHOLE_BYTES, FILLED_BYTE, FIRST_BYTE_0, INNER_BYTE_0, SEVERAL_LAST_BYTES_0,
+        FIRST_BYTE_255, LAST_BYTE_255, TWO_BYTES_255
+    }
+
+    /** Which edges the layer that was read or written latest has met. */
+    Set<Edge> met = EnumSet.noneOf(Edge.class);
 
     int[][] picture = new int[1][1];
     List<Integer> file = new ArrayList<>();
@@ -48,6 +62,46 @@ final class Model {
         BigInteger code = BigInteger.ZERO;
         int span = 65536;
         int doubled = 0;
+        Set<Edge> met = EnumSet.noneOf(Edge.class);
+
+        private void meets(boolean happens, Edge edge) {
+            if (happens) {
+                met.add(edge);
+            }
+        }
+
+        private void meetsInDecision(int context, int b) {
+            int q = Q[state[context]];
+            int rest = span - q;
+            boolean favoured = b == favourite[context];
+            int at = state[context];
+            meets(favoured && rest == 32768, Edge.HALF_IS_ALL);
+            // Each Q is even, so that nothing is nearer.
+            meets(favoured && rest == 32766, Edge.NEARLY_HALF_IS_NOT_ALL);
+            meets(favoured && rest < q, Edge.FAVOURITE_ABOVE);
+            meets(favoured && rest == q, Edge.FAVOURITE_AT_Q);
+            meets(!favoured && rest < q, Edge.OTHER_BELOW);
+            meets(!favoured && rest == q, Edge.OTHER_AT_Q);
+            meets(favoured && rest < 32768 && at == 23, Edge.STATE_STAYS_23);
+            meets(!favoured && at == 23, Edge.STATE_23_FALLS);
+            meets(!favoured && at == 2, Edge.STATE_2_FALLS);
+            meets(!favoured && at == 1, Edge.STATE_1_FALLS);
+            meets(!favoured && at == 0, b == 1 ? Edge.FAVOURITE_CHANGES : Edge.FAVOURITE_COMES_BACK);
+        }
+
+        private void meetsInBytes(List<Integer> all, int kept) {
+            meets(kept == 0, Edge.NO_BYTES);
+            meets(doubled % 8 == 0 && kept == all.size(), Edge.WHOLE_BYTES);
+            meets(doubled % 8 != 0 && kept == all.size(), Edge.FILLED_BYTE);
+            meets(kept > 0 && kept < all.size() - 1, Edge.SEVERAL_LAST_BYTES_0);
+            meets(kept > 0 && all.get(0) == 0, Edge.FIRST_BYTE_0);
+            meets(kept > 0 && all.get(0) == 255, Edge.FIRST_BYTE_255);
+            meets(kept > 0 && all.get(kept - 1) == 255, Edge.LAST_BYTE_255);
+            for (int i = 1; i < kept; i++) {
+                meets(all.get(i) == 0, Edge.INNER_BYTE_0);
+                meets(all.get(i) == 255 && all.get(i - 1) == 255, Edge.TWO_BYTES_255);
+            }
+        }
 
         /** What put() would make of code and span, before any doubling: {how much code grows, span}. */
         int[] part(int context, int b) {
@@ -62,7 +116,10 @@ final class Model {
         void put(int context, int b) {
             int rest = span - Q[state[context]];
             int[] part = part(context, b);
-            code = code.add(BigInteger.valueOf(part[0]));
+            meetsInDecision(context, b);
+            BigInteger grown = code.add(BigInteger.valueOf(part[0]));
+            meets(grown.xor(code).bitLength() > 32, Edge.LONG_CARRY);
+            code = grown;
             span = part[1];
             if (b == favourite[context]) {
                 if (rest < 32768 && state[context] < 23) {
@@ -73,11 +130,13 @@ final class Model {
             } else {
                 state[context] = state[context] == 1 ? 0 : state[context] - 2;
             }
+            boolean doubles = span < 32768;
             while (span < 32768) {
                 span *= 2;
                 code = code.shiftLeft(1);
                 doubled++;
             }
+            meets(doubles && span == 32768, Edge.DOUBLED_TO_HALF);
         }
 
         int take(int context, BigInteger number, int digits) {
@@ -103,10 +162,12 @@ final class Model {
             for (int i = whole - 8; i >= 0; i -= 8) {
                 out.add(filled.shiftRight(i).intValue() & 255);
             }
-            while (!out.isEmpty() && out.get(out.size() - 1) == 0) {
-                out.remove(out.size() - 1);
+            int kept = out.size();
+            while (kept > 0 && out.get(kept - 1) == 0) {
+                kept--;
             }
-            return out;
+            meetsInBytes(out, kept);
+            return out.subList(0, kept);
         }
     }
 
@@ -148,6 +209,7 @@ final class Model {
             }
         }
         told = new int[] {decisions, plainRows, interval.doubled};
+        met = interval.met;
         return interval.bytes();
     }
 
@@ -174,6 +236,7 @@ final class Model {
             }
         }
         told = new int[] {decisions, plainRows, interval.doubled};
+        met = interval.met;
         return layer;
     }
 

@@ -33,60 +33,18 @@ public final class PromisesTest {
         Check.finish();
     }
 
-    private static LayeredBits sized(int width, int height) {
-        LayeredBits bits = new LayeredBits();
-        bits.clear(width, height);
-        return bits;
-    }
-
-    /** Rows are written as texts of 0 and 1. */
-    private static LayeredBits drawn(String... rows) {
-        LayeredBits bits = sized(rows[0].length(), rows.length);
-        for (int y = 0; y < rows.length; y++) {
-            bits.row(y, Integer.parseInt(rows[y], 2));
-        }
-        return bits;
-    }
-
-    private static LayeredBits filed(int... bytes) {
-        LayeredBits bits = new LayeredBits();
-        for (int b : bytes) {
-            bits.type(b, 1);
-        }
-        return bits;
-    }
-
-    private static String shown(LayeredBits bits) {
-        StringBuilder text = new StringBuilder();
-        for (int y = 0; y < bits.height(); y++) {
-            for (int x = 0; x < bits.width(); x++) {
-                text.append(bits.get(x, y));
-            }
-            text.append(y + 1 < bits.height() ? "/" : "");
-        }
-        return text.toString();
-    }
-
-    private static String bytes(LayeredBits bits) {
-        StringBuilder text = new StringBuilder();
-        for (int k = 0; k < bits.size(); k++) {
-            text.append(k == 0 ? "" : " ").append(bits.byteAt(k));
-        }
-        return text.toString();
-    }
-
     private static void promise1NewObject() {
         LayeredBits bits = new LayeredBits();
-        Check.due("new: picture", shown(bits), "0");
+        Check.due("new: picture", Make.picture(bits), "0");
         Check.due("new: size()", bits.size(), 0);
         Check.refused("new: told(0)", STATE, () -> bits.told(0));
     }
 
     private static void promise2Clear() {
-        LayeredBits bits = drawn("11", "11");
+        LayeredBits bits = Make.drawn("11", "11");
         int size = bits.write(1);
         bits.clear(2, 2);
-        Check.due("clear to the same size", shown(bits), "00/00");
+        Check.due("clear to the same size", Make.picture(bits), "00/00");
         Check.due("clear leaves the file", bits.size(), size);
         bits.clear(16, 16);
         bits.row(15, -1);
@@ -102,10 +60,10 @@ public final class PromisesTest {
     }
 
     private static void promise3Set() {
-        LayeredBits bits = sized(5, 3);
+        LayeredBits bits = Make.sized(5, 3);
         Check.due("set 1 over 0", bits.set(4, 2, 1), 0);
         Check.due("set 1 over 1", bits.set(4, 2, 1), 1);
-        Check.due("the pixel is set", shown(bits), "00000/00000/00001");
+        Check.due("the pixel is set", Make.picture(bits), "00000/00000/00001");
         Check.due("set 0 over 1", bits.set(4, 2, 0), 1);
         Check.due("set 1 at the corner", bits.set(0, 0, 1), 0);
         int[][] outside = {{5, 0}, {0, 3}, {-1, 0}, {0, -1}, {Integer.MAX_VALUE, 0}, {0, Integer.MIN_VALUE}};
@@ -116,27 +74,27 @@ public final class PromisesTest {
         for (int b : new int[] {2, -1, Integer.MAX_VALUE, Integer.MIN_VALUE}) {
             Check.refused("set(0, 0, " + b + ")", ARGUMENT, () -> bits.set(0, 0, b));
         }
-        Check.due("refused calls change nothing", shown(bits), "10000/00000/00000");
+        Check.due("refused calls change nothing", Make.picture(bits), "10000/00000/00000");
     }
 
     private static void promise4Row() {
-        LayeredBits bits = sized(5, 3);
+        LayeredBits bits = Make.sized(5, 3);
         bits.row(0, 0b00001);
         bits.row(1, 0b1110000);
         bits.row(2, -2);
-        Check.due("rows", shown(bits), "00001/10000/11110");
+        Check.due("rows", Make.picture(bits), "00001/10000/11110");
         bits.row(2, 1 << 31);
-        Check.due("only the lowest bits", shown(bits), "00001/10000/00000");
+        Check.due("only the lowest bits", Make.picture(bits), "00001/10000/00000");
         for (int y : new int[] {3, -1, Integer.MAX_VALUE, Integer.MIN_VALUE}) {
             Check.refused("row(" + y + ", 1)", INDEX, () -> bits.row(y, 1));
         }
-        LayeredBits wide = sized(16, 1);
+        LayeredBits wide = Make.sized(16, 1);
         wide.row(0, 0x18001);
-        Check.due("a row of sixteen", shown(wide), "1000000000000001");
+        Check.due("a row of sixteen", Make.picture(wide), "1000000000000001");
     }
 
     private static void promise5Get() {
-        LayeredBits bits = drawn("111", "111");
+        LayeredBits bits = Make.drawn("111", "111");
         Check.due("get inside", bits.get(0, 0) + bits.get(2, 1), 2);
         int[][] outside = {{-1, 0}, {3, 0}, {0, 2}, {0, -1}, {16, 1}, {-16, 1},
             {Integer.MIN_VALUE, 0}, {Integer.MAX_VALUE, 0}, {0, Integer.MIN_VALUE}, {0, Integer.MAX_VALUE}};
@@ -146,7 +104,7 @@ public final class PromisesTest {
     }
 
     private static void promise6And7WidthAndHeight() {
-        LayeredBits bits = sized(16, 3);
+        LayeredBits bits = Make.sized(16, 3);
         Check.due("width()", bits.width(), 16);
         Check.due("height()", bits.height(), 3);
         bits.clear(2, 16);
@@ -155,9 +113,9 @@ public final class PromisesTest {
     }
 
     private static String halved(String... rows) {
-        LayeredBits bits = drawn(rows);
+        LayeredBits bits = Make.drawn(rows);
         bits.halve();
-        return shown(bits);
+        return Make.picture(bits);
     }
 
     private static void promise8Halve() {
@@ -167,7 +125,7 @@ public final class PromisesTest {
         Check.due("half of 3 by 1", halved("111"), "00");
         Check.due("half of 5 by 3", halved("11111", "11111", "11111"), "110/000");
         Check.due("three ones and three around", halved("111", "101", "001"), "10/00");
-        LayeredBits bits = drawn("1111111111111111");
+        LayeredBits bits = Make.drawn("1111111111111111");
         int size = bits.write(1);
         bits.halve();
         Check.due("halved width", bits.width(), 8);
@@ -179,7 +137,7 @@ public final class PromisesTest {
         }
         bits.halve();
         bits.halve();
-        Check.due("half of the half of ones", shown(bits), "1111/1111/1111/1111");
+        Check.due("half of the half of ones", Make.picture(bits), "1111/1111/1111/1111");
     }
 
     private static void promise8HalveOfTies() {
@@ -195,10 +153,10 @@ public final class PromisesTest {
         bits.type(0x0102030405060708L, 8);
         Check.due("write(1) of a pixel 0", bits.write(1), 9);
         // One plain row: code is 42468, doubled once: 84936 in 17 digits and 7 zeros.
-        Check.due("its bytes", bytes(bits), "74 66 1 1 1 165 228 255 2");
-        Check.due("its picture stays", shown(bits), "0");
+        Check.due("its bytes", Make.file(bits), "74 66 1 1 1 165 228 255 2");
+        Check.due("its picture stays", Make.picture(bits), "0");
         Check.due("write(3) of a pixel 0", bits.write(3), 17);
-        Check.due("its bytes in 3 layers", bytes(bits), "74 66 1 1 3 165 228 255 2 165 228 255 2 165 228 255 2");
+        Check.due("its bytes in 3 layers", Make.file(bits), "74 66 1 1 3 165 228 255 2 165 228 255 2 165 228 255 2");
         for (int n : new int[] {0, 4, -1, Integer.MAX_VALUE, Integer.MIN_VALUE}) {
             Check.refused("write(" + n + ")", ARGUMENT, () -> bits.write(n));
         }
@@ -206,31 +164,31 @@ public final class PromisesTest {
     }
 
     private static void promise9WrittenPixel() {
-        LayeredBits bits = drawn("1");
+        LayeredBits bits = Make.drawn("1");
         // Both decisions leave code 0, so that the layer has no byte.
         Check.due("write(1) of a pixel 1", bits.write(1), 7);
-        Check.due("its bytes", bytes(bits), "74 66 1 1 1 255 2");
+        Check.due("its bytes", Make.file(bits), "74 66 1 1 1 255 2");
         Check.due("decisions, plain rows, doublings", "" + bits.told(0) + bits.told(1) + bits.told(2), "201");
         Check.due("it is read", bits.read(0), LayeredBits.NONE);
-        Check.due("and the same", shown(bits), "1");
+        Check.due("and the same", Make.picture(bits), "1");
     }
 
     /** Pictures are tried until one has a byte 255 in its only layer. */
     private static void promise9WriteEscapes() {
         int found = 0;
         for (int seed = 1; seed < 4000 && found < 5; seed++) {
-            LayeredBits bits = sized(8, 4);
+            LayeredBits bits = Make.sized(8, 4);
             for (int y = 0; y < 4; y++) {
                 bits.row(y, seed * (7919 + 104729 * y) >> 3);
             }
-            String before = shown(bits);
+            String before = Make.picture(bits);
             int size = bits.write(1);
             for (int k = 5; k < size - 2; k++) {
                 if (bits.byteAt(k) == 255) {
                     found++;
                     Check.due("a 0 behind 255", bits.byteAt(k + 1), 0);
                     Check.due("read with a 255", bits.read(0), LayeredBits.NONE);
-                    Check.due("picture with a 255", shown(bits), before);
+                    Check.due("picture with a 255", Make.picture(bits), before);
                 }
             }
         }
@@ -239,52 +197,52 @@ public final class PromisesTest {
 
     private static void promise10ReadBack() {
         for (int seed = 1; seed < 400; seed++) {
-            LayeredBits bits = sized(1 + seed % 16, 1 + seed / 16 % 16);
+            LayeredBits bits = Make.sized(1 + seed % 16, 1 + seed / 16 % 16);
             for (int y = 0; y < bits.height(); y++) {
                 bits.row(y, seed % 3 == 0 ? seed : seed * (7919 + 104729 * y) >> 5);
             }
-            String before = shown(bits);
+            String before = Make.picture(bits);
             for (int n = 1; n <= 3; n++) {
                 bits.write(n);
-                String file = bytes(bits);
+                String file = Make.file(bits);
                 String told = bits.told(0) + " " + bits.told(1) + " " + bits.told(2);
                 bits.clear(3, 3);
                 Check.due("read", bits.read(n - 1), LayeredBits.NONE);
-                Check.due("picture that is read", shown(bits), before);
-                Check.due("file that was read", bytes(bits), file);
+                Check.due("picture that is read", Make.picture(bits), before);
+                Check.due("file that was read", Make.file(bits), file);
                 Check.due("told of reading", bits.told(0) + " " + bits.told(1) + " " + bits.told(2), told);
             }
         }
     }
 
     private static void promise10ReadLayerSizes() {
-        LayeredBits bits = sized(13, 6);
+        LayeredBits bits = Make.sized(13, 6);
         for (int y = 0; y < 6; y++) {
             bits.row(y, y < 3 ? 0b1111110000110 : 0b1111000011110);
         }
         bits.write(3);
-        LayeredBits halves = drawn("1111110000110", "1111110000110", "1111110000110",
+        LayeredBits halves = Make.drawn("1111110000110", "1111110000110", "1111110000110",
             "1111000011110", "1111000011110", "1111000011110");
         halves.halve();
-        String first = shown(halves);
+        String first = Make.picture(halves);
         halves.halve();
         bits.read(1);
-        Check.due("layer 1 is the half", shown(bits), first);
+        Check.due("layer 1 is the half", Make.picture(bits), first);
         Check.due("layer 1 size", 100 * bits.width() + bits.height(), 703);
         bits.read(0);
-        Check.due("layer 0 is its half", shown(bits), shown(halves));
+        Check.due("layer 0 is its half", Make.picture(bits), Make.picture(halves));
         Check.due("layer 0 size", 100 * bits.width() + bits.height(), 402);
     }
 
     private static void failsAt(int place, int... bytes) {
-        LayeredBits bits = filed(bytes);
+        LayeredBits bits = Make.filed(bytes);
         bits.clear(3, 2);
         bits.set(2, 1, 1);
-        String file = bytes(bits);
+        String file = Make.file(bits);
         Check.due("read(0) of " + file, bits.read(0), place);
         Check.due("read(9) of " + file, bits.read(9), place);
-        Check.due("picture after a failure", shown(bits), "000/001");
-        Check.due("file after a failure", bytes(bits), file);
+        Check.due("picture after a failure", Make.picture(bits), "000/001");
+        Check.due("file after a failure", Make.file(bits), file);
         Check.refused("told after a failure", STATE, () -> bits.told(0));
     }
 
@@ -304,7 +262,7 @@ public final class PromisesTest {
     }
 
     private static void promise10ReadFailsAtEnds() {
-        LayeredBits bits = drawn("1101001", "0010110", "1111000", "0110011");
+        LayeredBits bits = Make.drawn("1101001", "0010110", "1111000", "0110011");
         for (int n = bits.write(3) - 1; n >= 0; n--) {
             bits.cut(n);
             Check.due("read(0) of the first " + n, bits.read(0), n);
@@ -335,16 +293,16 @@ public final class PromisesTest {
         failsAt(9, 74, 66, 2, 2, 1, 255, 7, 2, 1);
         failsAt(10, 74, 66, 2, 2, 1, 255, 7, 2, 255, 2);
         failsAt(12, 74, 66, 2, 2, 1, 255, 7, 2, 255, 2, 255, 2, 1);
-        LayeredBits plain = filed(74, 66, 1, 1, 1, 165, 228, 255, 2);
-        LayeredBits bits = filed(74, 66, 1, 1, 2, 255, 7, 3, 255, 2, 7, 255, 2, 255, 7, 0, 165, 228, 255, 2);
+        LayeredBits plain = Make.filed(74, 66, 1, 1, 1, 165, 228, 255, 2);
+        LayeredBits bits = Make.filed(74, 66, 1, 1, 2, 255, 7, 3, 255, 2, 7, 255, 2, 255, 7, 0, 165, 228, 255, 2);
         Check.due("read without remarks", plain.read(0), LayeredBits.NONE);
         Check.due("read with remarks", bits.read(1), LayeredBits.NONE);
-        Check.due("a plain layer", shown(plain) + plain.told(1), "01");
+        Check.due("a plain layer", Make.picture(plain) + plain.told(1), "01");
         Check.due("a plain layer behind remarks", bits.told(0) * 10 + bits.told(1), 11);
-        Check.due("its pixel is that below", shown(bits), "1");
-        LayeredBits twice = filed(74, 66, 1, 1, 1, 255, 7, 1, 9, 255, 7, 0, 165, 228, 255, 2);
+        Check.due("its pixel is that below", Make.picture(bits), "1");
+        LayeredBits twice = Make.filed(74, 66, 1, 1, 1, 255, 7, 1, 9, 255, 7, 0, 165, 228, 255, 2);
         Check.due("remarks twice before the bytes", twice.read(0), LayeredBits.NONE);
-        LayeredBits longest = filed(74, 66, 1, 1, 1, 255, 7, 255);
+        LayeredBits longest = Make.filed(74, 66, 1, 1, 1, 255, 7, 255);
         for (int i = 0; i < 255; i++) {
             longest.type(255, 1);
         }
@@ -353,30 +311,30 @@ public final class PromisesTest {
     }
 
     private static void promise10ReadRefusals() {
-        LayeredBits bits = drawn("10", "01");
+        LayeredBits bits = Make.drawn("10", "01");
         bits.write(2);
-        String file = bytes(bits);
+        String file = Make.file(bits);
         bits.clear(3, 1);
         for (int k : new int[] {2, 3, Integer.MAX_VALUE}) {
             Check.refused("read(" + k + ") of two layers", STATE, () -> bits.read(k));
         }
         Check.refused("read(-1)", ARGUMENT, () -> bits.read(-1));
         Check.refused("read(MIN)", ARGUMENT, () -> bits.read(Integer.MIN_VALUE));
-        Check.due("a refused read leaves the picture", shown(bits), "000");
-        Check.due("a refused read leaves the file", bytes(bits), file);
+        Check.due("a refused read leaves the picture", Make.picture(bits), "000");
+        Check.due("a refused read leaves the file", Make.file(bits), file);
         bits.cut(0);
         Check.refused("read(-1) of no file", ARGUMENT, () -> bits.read(-1));
         Check.due("read(5) of no file", bits.read(5), 0);
     }
 
     private static void promise10ReadAnyBytes() {
-        LayeredBits zeros = filed(74, 66, 4, 4, 1, 255, 2);
+        LayeredBits zeros = Make.filed(74, 66, 4, 4, 1, 255, 2);
         Check.due("a layer without bytes", zeros.read(0), LayeredBits.NONE);
-        String without = shown(zeros) + zeros.told(0) + zeros.told(2);
-        LayeredBits more = filed(74, 66, 4, 4, 1, 0, 0, 0, 255, 2);
+        String without = Make.picture(zeros) + zeros.told(0) + zeros.told(2);
+        LayeredBits more = Make.filed(74, 66, 4, 4, 1, 0, 0, 0, 255, 2);
         Check.due("a layer of bytes 0", more.read(0), LayeredBits.NONE);
-        Check.due("is the same", shown(more) + more.told(0) + more.told(2), without);
-        LayeredBits full = filed(74, 66, 16, 16, 1, 1);
+        Check.due("is the same", Make.picture(more) + more.told(0) + more.told(2), without);
+        LayeredBits full = Make.filed(74, 66, 16, 16, 1, 1);
         Model due = new Model();
         due.type(0x4A4210100101L, 6);
         for (int i = 0; i < 446; i++) {
@@ -393,7 +351,7 @@ public final class PromisesTest {
     }
 
     private static void promise11Told() {
-        LayeredBits bits = drawn("1");
+        LayeredBits bits = Make.drawn("1");
         for (int what : new int[] {-1, 3, Integer.MIN_VALUE, Integer.MAX_VALUE}) {
             Check.refused("told(" + what + ") before any", ARGUMENT, () -> bits.told(what));
         }
@@ -436,7 +394,7 @@ public final class PromisesTest {
     }
 
     private static void promise13ByteAt() {
-        LayeredBits bits = filed(74, 0, 255);
+        LayeredBits bits = Make.filed(74, 0, 255);
         Check.due("byteAt(0)", bits.byteAt(0), 74);
         Check.due("byteAt(2)", bits.byteAt(2), 255);
         for (int k : new int[] {-1, 3, 899, 900, Integer.MIN_VALUE, Integer.MAX_VALUE}) {
@@ -448,10 +406,10 @@ public final class PromisesTest {
     }
 
     private static void promise14Poke() {
-        LayeredBits bits = filed(1, 2, 3);
+        LayeredBits bits = Make.filed(1, 2, 3);
         bits.poke(0, 255);
         bits.poke(2, 0);
-        Check.due("poked", bytes(bits), "255 2 0");
+        Check.due("poked", Make.file(bits), "255 2 0");
         for (int k : new int[] {-1, 3, 900, Integer.MIN_VALUE, Integer.MAX_VALUE}) {
             Check.refused("poke(" + k + ", 1)", INDEX, () -> bits.poke(k, 1));
             Check.refused("poke(" + k + ", 256)", INDEX, () -> bits.poke(k, 256));
@@ -459,14 +417,14 @@ public final class PromisesTest {
         for (int b : new int[] {-1, 256, Integer.MIN_VALUE, Integer.MAX_VALUE}) {
             Check.refused("poke(1, " + b + ")", ARGUMENT, () -> bits.poke(1, b));
         }
-        Check.due("refused pokes change nothing", bytes(bits), "255 2 0");
+        Check.due("refused pokes change nothing", Make.file(bits), "255 2 0");
     }
 
     private static void promise15Type() {
         LayeredBits bits = new LayeredBits();
         Check.due("type of two", bits.type(0x112233L, 2), 2);
         Check.due("type of eight", bits.type(0xFF00000000000080L, 8), 10);
-        Check.due("typed", bytes(bits), "34 51 255 0 0 0 0 0 0 128");
+        Check.due("typed", Make.file(bits), "34 51 255 0 0 0 0 0 0 128");
         for (int n : new int[] {0, 9, -1, Integer.MIN_VALUE, Integer.MAX_VALUE}) {
             Check.refused("type(1, " + n + ")", ARGUMENT, () -> bits.type(1, n));
         }
@@ -483,18 +441,18 @@ public final class PromisesTest {
     }
 
     private static void promise16Cut() {
-        LayeredBits bits = filed(5, 6, 7);
+        LayeredBits bits = Make.filed(5, 6, 7);
         bits.cut(3);
-        Check.due("cut to all", bytes(bits), "5 6 7");
+        Check.due("cut to all", Make.file(bits), "5 6 7");
         for (int n : new int[] {-1, 4, Integer.MIN_VALUE, Integer.MAX_VALUE}) {
             Check.refused("cut(" + n + ")", ARGUMENT, () -> bits.cut(n));
         }
-        Check.due("a refused cut changes nothing", bytes(bits), "5 6 7");
+        Check.due("a refused cut changes nothing", Make.file(bits), "5 6 7");
         bits.cut(1);
-        Check.due("cut(1)", bytes(bits), "5");
+        Check.due("cut(1)", Make.file(bits), "5");
         Check.refused("cut(2) of one", ARGUMENT, () -> bits.cut(2));
         bits.type(9, 1);
-        Check.due("typed behind a cut", bytes(bits), "5 9");
+        Check.due("typed behind a cut", Make.file(bits), "5 9");
         bits.cut(0);
         Check.due("cut(0)", bits.size(), 0);
         bits.cut(0);
