@@ -119,18 +119,22 @@ public final class DecisionEdgesTest {
     }
 
     private static void favouriteChanges() {
-        meets(Model.Edge.FAVOURITE_CHANGES, "74 66 1 1 1 165 228 255 2", "0");
-        meets(Model.Edge.FAVOURITE_COMES_BACK, "74 66 1 2 1 233 121 255 2", "0", "1");
+        meets(Model.Edge.FAVOURITE_CHANGES, "74 66 1 2 1 233 121 255 2", "0", "1");
+        meets(Model.Edge.FAVOURITE_COMES_BACK, "74 66 1 3 1 244 188 128 255 2", "0", "1", "1");
+        // In state 1 it stays.
+        meets(Model.Edge.STATE_1_FALLS, "74 66 1 4 1 192 100 255 2", "0", "0", "1", "1");
     }
 
+    /** From 1 and from 2 it falls to 0, and the favourite stays; each context has a decision to come. */
     private static void atLeast0() {
-        meets(Model.Edge.STATE_1_FALLS, "74 66 2 1 1 128 200 255 2", "01");
-        meets(Model.Edge.STATE_2_FALLS, "74 66 3 1 1 114 34 255 2", "001");
+        meets(Model.Edge.STATE_1_FALLS, "74 66 1 4 1 196 221 160 255 2", "0", "0", "1", "0");
+        meets(Model.Edge.STATE_1_FALLS, "74 66 1 4 1 192 100 255 2", "0", "0", "1", "1");
+        meets(Model.Edge.STATE_2_FALLS, "74 66 1 5 1 42 145 144 255 2", "1", "0", "1", "1", "0");
     }
 
     private static void doubledToHalf() {
-        meets(Model.Edge.DOUBLED_TO_HALF, "74 66 6 7 1 99 22 45 232 15 146 120 255 2",
-            "000011", "000011", "010100", "011001", "011111", "011100", "100010");
+        meets(Model.Edge.DOUBLED_TO_HALF, "74 66 6 6 1 163 195 45 52 210 9 255 2",
+            "010111", "011111", "010110", "011100", "101111", "100000");
     }
 
     private static void numberOfDigits() {
@@ -156,18 +160,25 @@ public final class DecisionEdgesTest {
 
     /** No byte, some bytes 0 and many of them are the same number; so is any number with zeros behind it. */
     private static void zerosWithoutEnd() {
-        int[] none = {};
-        int[] many = new int[200];
-        LayeredBits first = Make.filed(74, 66, 16, 16, 1, 255, 2);
-        Check.due("read(0) without bytes", first.read(0), LayeredBits.NONE);
         Model model = Make.modelOf(Make.filed(74, 66, 16, 16, 1, 255, 2));
         model.read(0);
-        Check.due("picture without bytes", Make.picture(first), Make.picture(model));
-        layer(16, 16, none, Make.picture(model), Make.told(model));
+        layer(16, 16, new int[] {}, Make.picture(model), Make.told(model));
         layer(16, 16, new int[] {0}, Make.picture(model), Make.told(model));
-        layer(16, 16, many, Make.picture(model), Make.told(model));
+        layer(16, 16, new int[200], Make.picture(model), Make.told(model));
         layer(1, 1, new int[] {166}, "0", "1 1 1");
         layer(1, 1, new int[] {166, 0, 0, 0, 0}, "0", "1 1 1");
+        // Nothing is left of a longer number that was taken before.
+        LayeredBits bits = Make.filed(74, 66, 16, 16, 1);
+        while (bits.size() < 100) {
+            bits.type(90, 1);
+        }
+        bits.type(0xFF02, 2);
+        Check.due("read of a long number", bits.read(0), LayeredBits.NONE);
+        bits.cut(5);
+        bits.type(0xFF02, 2);
+        Check.due("read without bytes", bits.read(0), LayeredBits.NONE);
+        Check.due("picture without bytes", Make.picture(bits), Make.picture(model));
+        Check.due("told without bytes", Make.told(bits), Make.told(model));
     }
 
     private static void first16Digits() {

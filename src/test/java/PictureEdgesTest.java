@@ -190,6 +190,9 @@ public final class PictureEdgesTest {
         halfOf("1101", "1111").is("11");
         halfOf("0111", "0110").is("00");
         halfOf("111", "101").is("00");
+        // The pixel (x - 1, y) of the picture itself is another one here.
+        halfOf("1101", "0111").is("00");
+        halfOf("0110", "1111", "1000").is("11/00");
         // The last two have 14 at the left of their second row: below a 1, and behind a row that ends with 1.
         halfOf("110000", "110000", "110000", "100000").is("100/000");
         halfOf("000011", "000011", "111000", "101000").is("001/000");
